@@ -225,10 +225,10 @@ public final class RatchetPost {
     }
 
     public int heals(int pair) {
-        int first = -1;
         if (lowerOf(pair) == null) {
-            return first;
+            return -1;
         }
+        int first = -1;
         for (int i = tick - 1; i >= 0; i--) {
             if (letters[i].sender / 2 == pair) {
                 if (letters[i].key.stepCount != NONE) {
@@ -589,7 +589,7 @@ public final class RatchetPost {
             return refuse(HOST_NOTHING);
         }
         int[] header = t.mail.header;
-        // The row of 5 takes n numbers from its place n on; all its other cells are 0 and add nothing to the sum.
+        // The row of 5 need not be made: the cells that no number is copied to are 0 and add nothing to the sum.
         if (n < 0 || 1 + n > header.length || n + n > 5) {
             return refuse(HOST_OUTSIDE);
         }

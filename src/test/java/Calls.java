@@ -1,3 +1,4 @@
+import java.lang.reflect.Method;
 import java.util.ArrayList;
 import java.util.Arrays;
 import java.util.List;
@@ -12,7 +13,8 @@ final class Calls {
     };
     /** The methods before this one are no questions. */
     static final int FIRST_QUESTION = 12;
-    static final int STATUS = number("status");
+    private static final Method[] OF_PROGRAM = methods(RatchetPost.class);
+    private static final Method[] OF_MODEL = methods(Model.class);
 
     private Calls() {
     }
@@ -41,60 +43,32 @@ final class Calls {
         return call(words[0], arguments);
     }
 
-    static int answer(RatchetPost x, int[] c) {
-        switch (NAMES[c[0]]) {
-            case "prime": return x.prime(c[1], c[2]);
-            case "limits": return x.limits(c[1], c[2]);
-            case "pair": return x.pair();
-            case "secret": return x.secret(c[1], c[2]);
-            case "start": return x.start(c[1]);
-            case "send": return x.send(c[1], c[2]);
-            case "alter": return x.alter(c[1], c[2]);
-            case "take": return x.take(c[1], c[2]);
-            case "see": return x.see(c[1]);
-            case "hold": return x.hold(c[1], c[2], c[3]);
-            case "act": return x.act(c[1], c[2], c[3]);
-            case "forge": return x.forge(c[1], c[2], c[3]);
-            case "known": return x.known(c[1]);
-            case "steps": return x.steps(c[1]);
-            case "heals": return x.heals(c[1]);
-            case "same": return x.same(c[1]);
-            case "told": return x.told(c[1], c[2]);
-            case "skipped": return x.skipped(c[1], c[2], c[3]);
-            case "letter": return x.letter(c[1], c[2]);
-            case "count": return x.count(c[1]);
-            case "tray": return x.tray(c[1]);
-            case "trace": return x.trace(c[1]);
-            default: return x.status();
+    /** What the program or the Model answers to a call; both have the face of the program. */
+    static int answer(Object x, int[] c) {
+        Method m = (x instanceof Model ? OF_MODEL : OF_PROGRAM)[c[0]];
+        Object[] arguments = new Object[m.getParameterCount()];
+        for (int i = 0; i < arguments.length; i++) {
+            arguments[i] = c[i + 1];
+        }
+        try {
+            return (Integer) m.invoke(x, arguments);
+        } catch (ReflectiveOperationException e) {
+            throw new IllegalStateException(text(c) + " failed", e);
         }
     }
 
-    static int answer(Model x, int[] c) {
-        switch (NAMES[c[0]]) {
-            case "prime": return x.prime(c[1], c[2]);
-            case "limits": return x.limits(c[1], c[2]);
-            case "pair": return x.pair();
-            case "secret": return x.secret(c[1], c[2]);
-            case "start": return x.start(c[1]);
-            case "send": return x.send(c[1], c[2]);
-            case "alter": return x.alter(c[1], c[2]);
-            case "take": return x.take(c[1], c[2]);
-            case "see": return x.see(c[1]);
-            case "hold": return x.hold(c[1], c[2], c[3]);
-            case "act": return x.act(c[1], c[2], c[3]);
-            case "forge": return x.forge(c[1], c[2], c[3]);
-            case "known": return x.known(c[1]);
-            case "steps": return x.steps(c[1]);
-            case "heals": return x.heals(c[1]);
-            case "same": return x.same(c[1]);
-            case "told": return x.told(c[1], c[2]);
-            case "skipped": return x.skipped(c[1], c[2], c[3]);
-            case "letter": return x.letter(c[1], c[2]);
-            case "count": return x.count(c[1]);
-            case "tray": return x.tray(c[1]);
-            case "trace": return x.trace(c[1]);
-            default: return x.status();
+    private static Method[] methods(Class<?> face) {
+        Method[] found = new Method[NAMES.length];
+        for (Method m : RatchetPost.class.getMethods()) {
+            try {
+                if (number(m.getName()) >= 0) {
+                    found[number(m.getName())] = face.getDeclaredMethod(m.getName(), m.getParameterTypes());
+                }
+            } catch (NoSuchMethodException e) {
+                throw new IllegalStateException(e);
+            }
         }
+        return found;
     }
 
     static String text(int[] c) {
