@@ -1,14 +1,7 @@
-import java.math.BigInteger;
-import java.util.ArrayList;
 import java.util.List;
 
 /** Promise by promise: ordinary calls, the edges that the document names, and wrong numbers. */
-public final class PromiseTest {
-    private static final int MIN = Integer.MIN_VALUE;
-    private static final int MAX = Integer.MAX_VALUE;
-    private static int wrong = 0;
-    private static String promise = "";
-
+public final class PromiseTest extends Checks {
     private PromiseTest() {
     }
 
@@ -49,116 +42,13 @@ public final class PromiseTest {
         forgeNumbers();
         forgeWrong();
         status();
-        System.out.println(wrong == 0 ? "all promises hold" : wrong + " answers are not as due");
-        if (wrong != 0) {
-            System.exit(1);
-        }
-    }
-
-    // ---- runs, told as texts ----
-
-    private static List<int[]> run(String... told) {
-        return behind(new ArrayList<>(), told);
-    }
-
-    private static List<int[]> behind(List<int[]> run, String... told) {
-        List<int[]> longer = new ArrayList<>(run);
-        for (String t : told) {
-            longer.add(Calls.parsed(t));
-        }
-        return longer;
-    }
-
-    private static List<int[]> repeated(List<int[]> run, int times, String told) {
-        List<int[]> longer = new ArrayList<>(run);
-        for (int i = 0; i < times; i++) {
-            longer.add(Calls.parsed(told));
-        }
-        return longer;
-    }
-
-    private static void check(boolean right, String what) {
-        if (!right) {
-            wrong++;
-            System.out.println(promise + ": " + what);
-        }
-    }
-
-    /** The call answers so behind the run, and is done (STATUS 0), if it is no question. */
-    private static void due(List<int[]> run, String told, int want) {
-        RatchetPost x = Calls.played(run);
-        int[] c = Calls.parsed(told);
-        int got = Calls.answer(x, c);
-        check(got == want, told + " answered " + got + ", due is " + want);
-        check(c[0] >= Calls.FIRST_QUESTION || x.status() == 0, told + " left STATUS " + x.status() + ", due is 0");
-    }
-
-    /** The call answers -1 behind the run, leaves that STATUS, and nothing else is changed. */
-    private static void refused(List<int[]> run, String told, int status) {
-        RatchetPost x = Calls.played(run);
-        int got = Calls.answer(x, Calls.parsed(told));
-        check(got == -1, told + " answered " + got + ", due is -1");
-        check(x.status() == status, told + " left STATUS " + x.status() + ", due is " + status);
-        int letters = Calls.played(run).count(1);
-        boolean same = Calls.snapshot(run, letters).equals(Calls.snapshot(behind(run, told), letters));
-        check(same, told + " was refused, but changed something");
-    }
-
-    private static void nothing(List<int[]> run, String... questions) {
-        for (String q : questions) {
-            due(run, q, -1);
-        }
-    }
-
-    // ---- the arithmetic of the document ----
-
-    private static int power(int q, int b, int e) {
-        return BigInteger.valueOf(b).modPow(BigInteger.valueOf(e), BigInteger.valueOf(q)).intValue();
-    }
-
-    private static int mix(int q, int x, int y) {
-        return (31 * x + 17 * y + x * y + 7) % q;
-    }
-
-    private static int next(int q, int chain, int places) {
-        int c = chain;
-        for (int i = 0; i < places; i++) {
-            c = mix(q, c, 2);
-        }
-        return c;
-    }
-
-    private static int key(int q, int chain, int places) {
-        return mix(q, next(q, chain, places), 1);
-    }
-
-    // ---- runs that many tests begin with: Q 1009, G 11 ----
-
-    private static final int Q = 1009;
-    private static final int FIRST = power(Q, 11, 5 * 8);
-    private static final int LOWER_ROOT = mix(Q, FIRST, power(Q, 11, 9 * 8));
-    private static final int LOWER_CHAIN = mix(Q, LOWER_ROOT, 3);
-    private static final int OTHER_ROOT = mix(Q, LOWER_ROOT, power(Q, 11, 9 * 21));
-    private static final int OTHER_CHAIN = mix(Q, OTHER_ROOT, 3);
-
-    private static List<int[]> filled() {
-        return run("prime 1009 11", "pair", "secret 0 5", "secret 0 9", "secret 0 14", "secret 0 17",
-            "secret 1 8", "secret 1 21", "secret 1 33", "secret 1 40");
-    }
-
-    private static List<int[]> started() {
-        return behind(filled(), "start 0");
-    }
-
-    /** The lower END sent LETTERS 0 to 5, of which the other one took none. */
-    private static List<int[]> sixSent() {
-        return behind(started(), "send 0 10", "send 0 11", "send 0 12", "send 0 13", "send 0 14", "send 0 15");
+        finish("all promises hold");
     }
 
     // ---- 1 to 4 ----
 
     private static void newObject() {
-        promise = "1 new object";
+        about("1 new object");
         List<int[]> none = run();
         for (int what = 0; what < 5; what++) {
             due(none, "count " + what, 0);
@@ -180,7 +70,7 @@ public final class PromiseTest {
     }
 
     private static void prime() {
-        promise = "2 prime";
+        about("2 prime");
         List<int[]> none = run();
         due(none, "prime 3 2", 3);
         due(none, "prime 10007 10006", 10007);
@@ -199,7 +89,7 @@ public final class PromiseTest {
     }
 
     private static void limits() {
-        promise = "3 limits";
+        about("3 limits");
         for (String good : new String[] {"0 0", "12 300", "6 50"}) {
             due(run(), "limits " + good, 1);
         }
@@ -219,7 +109,7 @@ public final class PromiseTest {
     }
 
     private static void pair() {
-        promise = "4 pair";
+        about("4 pair");
         List<int[]> pairs = run();
         for (int p = 0; p < 6; p++) {
             due(pairs, "told " + 2 * p + " 0", -1);
@@ -234,7 +124,7 @@ public final class PromiseTest {
     // ---- 5 to 8 ----
 
     private static void secret() {
-        promise = "5 secret";
+        about("5 secret");
         List<int[]> row = run("pair");
         for (int i = 1; i <= 12; i++) {
             due(row, "secret 1 7", i);
@@ -258,7 +148,7 @@ public final class PromiseTest {
     }
 
     private static void start() {
-        promise = "6 start";
+        about("6 start");
         due(filled(), "start 0", 1);
         due(started(), "count 2", 8 + 5);
         int[] lower = {2, power(Q, 11, 9), LOWER_ROOT, LOWER_CHAIN, -1, power(Q, 11, 8), 0, 0, 0, 0};
@@ -283,7 +173,7 @@ public final class PromiseTest {
     }
 
     private static void send() {
-        promise = "7 send";
+        about("7 send");
         due(started(), "send 0 65", 0);
         List<int[]> two = behind(started(), "send 0 65", "send 0 255");
         due(two, "send 0 0", 2);
@@ -320,7 +210,7 @@ public final class PromiseTest {
     }
 
     private static void alter() {
-        promise = "8 alter";
+        about("8 alter");
         List<int[]> one = behind(started(), "send 0 65");
         int text = (65 + key(Q, LOWER_CHAIN, 0)) % 256;
         due(one, "alter 0 1", 1);
@@ -341,7 +231,7 @@ public final class PromiseTest {
     // ---- 9 ----
 
     private static void takeInTurn() {
-        promise = "9 take, in turn";
+        about("9 take, in turn");
         List<int[]> six = sixSent();
         due(six, "take 1 0", 10);
         List<int[]> first = behind(six, "take 1 0");
@@ -363,7 +253,7 @@ public final class PromiseTest {
     }
 
     private static void takeSkipped() {
-        promise = "9 take, skipped";
+        about("9 take, skipped");
         List<int[]> late = behind(sixSent(), "take 1 0", "take 1 3");
         due(late, "told 1 9", 2);
         due(late, "told 1 8", 4);
@@ -380,7 +270,7 @@ public final class PromiseTest {
     }
 
     private static void takeNewPublic() {
-        promise = "9 take, a new PUBLIC";
+        about("9 take, a new PUBLIC");
         // The other END answers twice; the lower one took nothing till then, so its TAKING CHAIN is missing.
         List<int[]> answered = behind(sixSent(), "take 1 2", "send 1 30", "send 1 31");
         due(answered, "take 0 7", 31);
@@ -413,7 +303,7 @@ public final class PromiseTest {
     }
 
     private static void takeOldPublic() {
-        promise = "9 take, an old PUBLIC";
+        about("9 take, an old PUBLIC");
         List<int[]> moved = behind(sixSent(), "take 1 2", "send 1 30", "take 0 6", "send 0 40", "take 1 7");
         // Places 3 to 5 were SKIPPED when the new PUBLIC came; 2 was taken.
         due(moved, "take 1 5", 15);
@@ -432,7 +322,7 @@ public final class PromiseTest {
     }
 
     private static void takeSamePublic() {
-        promise = "9 take, the same PUBLIC";
+        about("9 take, the same PUBLIC");
         // The lower END's next SECRET has the PUBLIC of the one before it: 109 is 9 modulo 100.
         List<int[]> same = run("pair", "secret 0 5", "secret 0 9", "secret 0 109", "secret 1 8", "secret 1 21",
             "secret 1 33", "start 0", "send 0 1", "send 0 2", "take 1 1", "send 1 2", "take 0 2", "send 0 77");
@@ -449,7 +339,7 @@ public final class PromiseTest {
     }
 
     private static void takeRefused() {
-        promise = "9 take, refused";
+        about("9 take, refused");
         List<int[]> six = sixSent();
         for (String bad : new String[] {"-1 0", "2 0", "12 0", "1 -1", "1 6", "1 300", MIN + " 0", "1 " + MAX}) {
             refused(six, "take " + bad, 1);
@@ -485,7 +375,7 @@ public final class PromiseTest {
     // ---- SKIPPED ones ----
 
     private static void skippedOnesKept() {
-        promise = "SKIPPED, 12 are kept";
+        about("SKIPPED, 12 are kept");
         List<int[]> many = repeated(behind(started(), "limits 12 300"), 16, "send 0 5");
         List<int[]> full = behind(many, "take 1 12");
         due(full, "told 1 9", 12);
@@ -507,7 +397,7 @@ public final class PromiseTest {
     }
 
     private static void skippedOnesEnd() {
-        promise = "SKIPPED, they end";
+        about("SKIPPED, they end");
         List<int[]> kept = behind(started(), "limits 6 3", "send 0 1", "send 0 2", "take 1 1", "send 0 3", "send 0 4", "send 0 5");
         due(kept, "told 1 9", 1);
         due(kept, "take 1 0", 1);
@@ -530,7 +420,7 @@ public final class PromiseTest {
     // ---- 10 to 14 ----
 
     private static void see() {
-        promise = "10 see";
+        about("10 see");
         due(started(), "see 0", 3);
         due(started(), "see 1", 2);
         due(behind(started(), "see 0"), "see 0", 0);
@@ -563,7 +453,7 @@ public final class PromiseTest {
     }
 
     private static void knownAndSteps() {
-        promise = "11 known, 12 steps";
+        about("11 known, 12 steps");
         List<int[]> six = sixSent();
         due(six, "known 0", 0);
         due(six, "steps 0", -1);
@@ -600,7 +490,7 @@ public final class PromiseTest {
     }
 
     private static void heals() {
-        promise = "13 heals";
+        about("13 heals");
         List<int[]> six = sixSent();
         due(started(), "heals 0", -1);
         due(six, "heals 0", 0);
@@ -628,7 +518,7 @@ public final class PromiseTest {
     }
 
     private static void same() {
-        promise = "14 same";
+        about("14 same");
         due(started(), "same 0", 4);
         due(behind(started(), "send 0 1"), "same 0", 4);
         due(behind(started(), "send 0 1", "take 1 0"), "same 0", 2);
@@ -646,7 +536,7 @@ public final class PromiseTest {
     // ---- 15 to 18 ----
 
     private static void told() {
-        promise = "15 told";
+        about("15 told");
         due(filled(), "told 0 0", 4);
         for (int what = 1; what < 10; what++) {
             due(filled(), "told 0 " + what, -1);
@@ -665,7 +555,7 @@ public final class PromiseTest {
     }
 
     private static void skipped() {
-        promise = "16 skipped";
+        about("16 skipped");
         List<int[]> kept = behind(sixSent(), "take 1 2");
         for (int i = 0; i < 2; i++) {
             due(kept, "skipped 1 " + i + " 0", power(Q, 11, 9));
@@ -678,7 +568,7 @@ public final class PromiseTest {
     }
 
     private static void letter() {
-        promise = "17 letter";
+        about("17 letter");
         List<int[]> met = behind(sixSent(), "take 1 0", "send 1 200");
         int key = key(Q, OTHER_CHAIN, 0);
         int[] sixth = {1, power(Q, 11, 21), 0, 0, (200 + key) % 256, mix(Q, key, 200)};
@@ -692,7 +582,7 @@ public final class PromiseTest {
     }
 
     private static void count() {
-        promise = "18 count";
+        about("18 count");
         due(filled(), "count 0", 1);
         due(filled(), "count 1", 0);
         due(filled(), "count 2", 8);
@@ -711,14 +601,8 @@ public final class PromiseTest {
 
     // ---- 19 to 22 ----
 
-    /** TRAYS: 0 nothing, 1 a KEY, 2 a LETTER, 3 a ROOT, 4 and 5 the CHAINS, 6 a SECRET, 7 a SKIPPED one, all of END 1. */
-    private static List<int[]> held() {
-        return behind(sixSent(), "take 1 2", "hold 0 0 0", "hold 1 1 1", "hold 2 2 1", "hold 3 3 1", "hold 4 4 1",
-            "hold 5 5 1", "hold 6 6 1", "hold 7 7 1");
-    }
-
     private static void hold() {
-        promise = "19 hold";
+        about("19 hold");
         List<int[]> kept = behind(sixSent(), "take 1 2");
         for (int what = 0; what < 8; what++) {
             due(kept, "hold 7 " + what + " 1", 1);
@@ -749,7 +633,7 @@ public final class PromiseTest {
     }
 
     private static void tray() {
-        promise = "20 tray";
+        about("20 tray");
         int[] has = {0, 2, 1, 4, 3, 3, 5, 6};
         for (int i = 0; i < 8; i++) {
             due(held(), "tray " + i, has[i]);
@@ -767,7 +651,7 @@ public final class PromiseTest {
     }
 
     private static void act() {
-        promise = "21 act";
+        about("21 act");
         int[] values = {0, key(Q, LOWER_CHAIN, 1), 0, OTHER_ROOT, OTHER_CHAIN, next(Q, LOWER_CHAIN, 3), 21, key(Q, LOWER_CHAIN, 0)};
         for (int x : new int[] {0, 1, -1, 9, 12345, MIN, MAX}) {
             for (int i : new int[] {1, 3, 4, 5, 6, 7}) {
@@ -804,7 +688,7 @@ public final class PromiseTest {
     }
 
     private static void trace() {
-        promise = "22 trace";
+        about("22 trace");
         traced("act 1 0 5", 10);
         traced("act 1 1 5", 11, 10);
         traced("act 1 2 5", 12, 11, 10, 13);
@@ -841,7 +725,7 @@ public final class PromiseTest {
     // ---- 23 ----
 
     private static void forgeKind() {
-        promise = "23 forge 0";
+        about("23 forge 0");
         int[] values = {0, key(Q, LOWER_CHAIN, 1), 0, OTHER_ROOT, OTHER_CHAIN, next(Q, LOWER_CHAIN, 3), 21, key(Q, LOWER_CHAIN, 0)};
         String[] fits = {"", "0", "", "012", "01", "01", "03", "04"};
         for (int n = -100; n <= 100; n++) {
@@ -859,7 +743,7 @@ public final class PromiseTest {
     }
 
     private static void forgeHeader() {
-        promise = "23 forge 1 and 3";
+        about("23 forge 1 and 3");
         List<int[]> run = behind(started(), "send 0 1", "send 0 2", "send 0 3", "take 1 0", "send 1 4", "take 0 3", "send 0 6", "send 0 7",
             "hold 2 2 5", "hold 1 1 5");
         int[] header = {power(Q, 11, 14), 3, 1};
@@ -883,7 +767,7 @@ public final class PromiseTest {
     }
 
     private static void forgeRows() {
-        promise = "23 forge 2 and 4";
+        about("23 forge 2 and 4");
         for (int i : new int[] {0, 1, 2, 3, 7}) {
             due(held(), "forge " + i + " 2 0", 0);
             due(held(), "forge " + i + " 2 100", 100);
@@ -901,7 +785,7 @@ public final class PromiseTest {
     }
 
     private static void forgeNumbers() {
-        promise = "23 forge 5 and 6";
+        about("23 forge 5 and 6");
         for (int n = -100; n <= 100; n++) {
             if (n == 0) {
                 refused(held(), "forge 0 5 0", 15);
@@ -920,7 +804,7 @@ public final class PromiseTest {
     }
 
     private static void forgeWrong() {
-        promise = "23 forge, outside";
+        about("23 forge, outside");
         for (int what = 0; what < 7; what++) {
             for (int n : new int[] {-101, 101, MIN, MAX}) {
                 refused(held(), "forge 3 " + what + " " + n, 1);
@@ -937,7 +821,7 @@ public final class PromiseTest {
     }
 
     private static void status() {
-        promise = "24 status";
+        about("24 status");
         due(run(), "status", 0);
         due(run("secret 0 1"), "status", 1);
         due(run("secret 0 1", "pair"), "status", 0);
