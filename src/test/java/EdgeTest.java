@@ -659,7 +659,7 @@ public final class EdgeTest extends Checks {
                 due(behind(next, "limits " + (late + n) + " 50"), "take 1 " + taken, 2 + n);
                 if (late + n > 0) {
                     refused(behind(next, "limits " + (late + n - 1) + " 50"), "take 1 " + taken, 5);
-                    due(behind(next, "take 1 " + taken), "skipped 1 " + (past + late + n - 1) + " 1", n > 0 ? n - 1 : 5 - 1 + 1);
+                    due(behind(next, "take 1 " + taken), "skipped 1 " + (past + late + n - 1) + " 1", n > 0 ? n - 1 : 5);
                     due(behind(next, "take 1 " + taken), "skipped 1 " + (past + late + n - 1) + " 0", power(Q, 11, n > 0 ? 14 : 9));
                     due(behind(next, "take 1 " + taken), "skipped 1 " + (past + late + n - 1) + " 3", 9);
                 }
@@ -1107,7 +1107,7 @@ public final class EdgeTest extends Checks {
         refused(mail, "forge 2 3 -1", 12);
         refused(mail, "forge 2 3 3", 12);
         about("a row of n cells is made: 13");
-        edgeOf13();
+        rowsOfCells();
         about("14 if it is another THING; answers 1 (0: it was nothing)");
         int[] put = {0, -14, -11, 1, 1, 1, -14, -14};
         for (int tray = 0; tray < 8; tray++) {
@@ -1134,7 +1134,7 @@ public final class EdgeTest extends Checks {
         }
     }
 
-    private static void edgeOf13() {
+    private static void rowsOfCells() {
         for (int tray : new int[] {0, 1, 2}) {
             due(held(), "forge " + tray + " 2 0", 0);
             due(held(), "forge " + tray + " 2 1", 1);
